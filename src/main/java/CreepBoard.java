@@ -741,18 +741,15 @@ public final class CreepBoard {
             return before;
         }
 
-        @Override
         long clearedValue(int epoch, int side) {
             long value = super.clearedValue(epoch, side);
             return epoch >= antennaEpoch ? value - antennaOffset : value;
         }
 
-        @Override
         int heft() {
             return super.heft() + antennaOffset + 100;
         }
 
-        @Override
         void fail() {
             throw new IllegalStateException("receiver");
         }
@@ -763,7 +760,6 @@ public final class CreepBoard {
             super(x, y);
         }
 
-        @Override
         int clearFrom() {
             int seen = 0;
             for (int e = 0; e < EPOCHS; e++) {
@@ -777,12 +773,10 @@ public final class CreepBoard {
             return EPOCHS;
         }
 
-        @Override
         int heft() {
             return 2 * super.heft();
         }
 
-        @Override
         void fail() {
             throw new UnsupportedOperationException("standing");
         }
@@ -793,7 +787,6 @@ public final class CreepBoard {
             super(x, y);
         }
 
-        @Override
         long clearedValue(int epoch, int side) {
             return super.clearedValue(epoch, side) - seasonMean(epoch, side);
         }
@@ -810,7 +803,6 @@ public final class CreepBoard {
             return n == 0 ? 0 : sum / n;
         }
 
-        @Override
         int heft() {
             return super.heft() + 7;
         }

@@ -18,6 +18,7 @@ public final class MarksTest {
         rate();
         rateAtTheEdges();
         jump();
+        jumpOfUnevenParts();
         common();
         due.end();
     }
@@ -195,6 +196,12 @@ public final class MarksTest {
         due.is("7 cut mean -13, north", 3, () -> x.cleared(0, 1, 1));
         due.is("7 last of the season", 7, () -> x.cleared(0, 37, 0));
         due.is("7 alone in its season", 0, () -> x.cleared(0, 2, 0));
+        x.read(0, 0, 7, 0);
+        x.read(0, 36, 9, 0);
+        x.read(0, 3, 7, 0);
+        x.read(0, 39, 9, 0);
+        due.is("7 the season of 0", 1, () -> x.cleared(0, 36, 0));
+        due.is("7 the season of 3", 1, () -> x.cleared(0, 39, 0));
         x.step(0, 5, 100, 0);
         due.is("7 the mean is without steps", -3, () -> x.cleared(0, 1, 0));
         due.is("7 the reading is less the step", -102, () -> x.cleared(0, 5, 0));
@@ -218,6 +225,9 @@ public final class MarksTest {
         x.mark(0, 0, 0);
         x.mark(2, 0, 0);
         due.is("8 none", 0, () -> x.many(0));
+        due.is("8 none of a standing one", 0, () -> x.many(1));
+        x.read(1, 39, 0, 0);
+        due.is("8 one, left out", 0, () -> x.many(1));
         due.is("8 no mark", -1, () -> x.many(2));
         due.is("8 no mark below", -1, () -> x.many(-1));
         for (int e = 0; e < 40; e++) {
@@ -307,6 +317,23 @@ public final class MarksTest {
         due.is("10 fractions, not cut, north", 3, () -> w.jump(0, 1));
         w.step(0, 4, -100, 0);
         due.is("10 of cleared readings", 4, () -> w.jump(0, 0));
+    }
+
+    private static void jumpOfUnevenParts() {
+        CreepBoard x = new CreepBoard();
+        x.mark(0, 0, 0);
+        x.mark(0, 0, 0);
+        for (int e = 0; e < 40; e++) {
+            x.read(0, e, e < 38 ? 0 : 100000, e < 2 ? 100000 : 0);
+        }
+        due.is("10 at the last place", 38, () -> x.jump(0, 0));
+        due.is("10 at the first place", 2, () -> x.jump(0, 1));
+        int[] z = {6, -9, -3, -9, -6, -2, 6, -4};
+        for (int e = 0; e < 8; e++) {
+            x.read(1, e, z[e], -z[e]);
+        }
+        due.is("10 means, not sums", 6, () -> x.jump(1, 0));
+        due.is("10 means, not sums, turned", 6, () -> x.jump(1, 1));
     }
 
     private static void common() {

@@ -91,6 +91,12 @@ public final class MotionTest {
         }
         due.is("14 at the other end", -100000, () -> y.moves(1, 1));
         due.is("14 beyond the other end", -2, () -> y.frame(0, 1, 0));
+        CreepBoard first = board(1000, 0, 0, 0);
+        for (int i = 0; i < 10; i++) {
+            first.frame(0, 1000, 9);
+        }
+        due.is("14 mark 0 beyond", -2, () -> first.frame(0, 1, 0));
+        due.is("14 and all stay", -10000, () -> first.moves(1, 1));
     }
 
     private static void strain() {
@@ -166,6 +172,7 @@ public final class MotionTest {
         x.velocity(1, 1, 0);
         due.is("16 two that drift apart", 0, () -> x.block(3));
         due.is("16 one alone", 1, () -> x.block(2));
+        due.is("16 mark 0 alone", 1, () -> x.block(1));
         CreepBoard none = new CreepBoard();
         due.is("16 without marks", -1, () -> none.block(1));
     }
