@@ -334,6 +334,12 @@ public final class MarksTest {
         }
         due.is("10 means, not sums", 6, () -> x.jump(1, 0));
         due.is("10 means, not sums, turned", 6, () -> x.jump(1, 1));
+        x.mark(0, 0, 0);
+        for (int e = 0; e < 6; e++) {
+            x.read(2, e, e == 0 ? 50 : 0, e == 5 ? 50 : 0);
+        }
+        due.is("10 the first reading counts", 2, () -> x.jump(2, 0));
+        due.is("10 the last reading counts", 4, () -> x.jump(2, 1));
     }
 
     private static void common() {
