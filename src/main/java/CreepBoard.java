@@ -75,7 +75,7 @@ public final class CreepBoard {
         if (markCount >= MOST_MARKS) {
             return FULL;
         }
-        marks[markCount] = markOfKind(kind, x, y);
+        marks[markCount] = markOfKind(kind, markCount, x, y);
         markCount++;
         forgetMotion();
         return markCount - 1;
@@ -446,9 +446,7 @@ public final class CreepBoard {
         try {
             m.fail();
         } catch (IllegalStateException e) {
-            return RECEIVER;
-        } catch (UnsupportedOperationException e) {
-            return STANDING;
+            return m.number();
         }
         return NO_FAILURE;
     }
@@ -479,16 +477,16 @@ public final class CreepBoard {
         return d >= 0 && d < SHELVES ? shelves[d] : null;
     }
 
-    private static Mark markOfKind(int kind, int x, int y) {
+    private static Mark markOfKind(int kind, int number, int x, int y) {
         switch (kind) {
             case RECEIVER:
-                return new Receiver(x, y);
+                return new Receiver(number, x, y);
             case STANDING:
-                return new Standing(x, y);
+                return new Standing(number, x, y);
             case BUOY:
-                return new Buoy(x, y);
+                return new Buoy(number, x, y);
             default:
-                return new Mark(x, y);
+                return new Mark(number, x, y);
         }
     }
 
@@ -600,6 +598,7 @@ public final class CreepBoard {
 
     /** A mark of the plain kind, and what all kinds have of it. Callers look at epochs, sides and cuts first. */
     private static class Mark {
+        private final int number;
         private final int x;
         private final int y;
         private final boolean[] present = new boolean[EPOCHS];
@@ -611,9 +610,14 @@ public final class CreepBoard {
         private int readingCount;
         private int stepCount;
 
-        Mark(int x, int y) {
+        Mark(int number, int x, int y) {
+            this.number = number;
             this.x = x;
             this.y = y;
+        }
+
+        final int number() {
+            return number;
         }
 
         final int placeX() {
@@ -730,8 +734,8 @@ public final class CreepBoard {
         private int antennaEpoch;
         private int antennaOffset;
 
-        Receiver(int x, int y) {
-            super(x, y);
+        Receiver(int number, int x, int y) {
+            super(number, x, y);
         }
 
         final int changeAntenna(int epoch, int offset) {
@@ -751,13 +755,13 @@ public final class CreepBoard {
         }
 
         void fail() {
-            throw new IllegalStateException("receiver");
+            throw new IllegalStateException("the receiver fails");
         }
     }
 
     private static final class Standing extends Receiver {
-        Standing(int x, int y) {
-            super(x, y);
+        Standing(int number, int x, int y) {
+            super(number, x, y);
         }
 
         int clearFrom() {
@@ -776,15 +780,11 @@ public final class CreepBoard {
         int heft() {
             return 2 * super.heft();
         }
-
-        void fail() {
-            throw new UnsupportedOperationException("standing");
-        }
     }
 
     private static final class Buoy extends Mark {
-        Buoy(int x, int y) {
-            super(x, y);
+        Buoy(int number, int x, int y) {
+            super(number, x, y);
         }
 
         long clearedValue(int epoch, int side) {

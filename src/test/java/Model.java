@@ -615,6 +615,6 @@ final class Model {
         if (g == null) {
             return -12;
         }
-        return g.kind == 1 || g.kind == 2 ? g.kind : -15;
+        return g.kind == 1 || g.kind == 2 ? marks.indexOf(g) : -15;
     }
 }

@@ -15,6 +15,7 @@ public final class ShelvesTest {
         weight();
         weightRefusals();
         toss();
+        tossTellsTheMarksNumber();
         due.end();
     }
 
@@ -261,5 +262,36 @@ public final class ShelvesTest {
         due.is("34 nothing", -11, () -> x.toss(6));
         due.is("34 no shelf", -1, () -> x.toss(8));
         due.is("34 no shelf below", -1, () -> x.toss(-1));
+    }
+
+    private static void tossTellsTheMarksNumber() {
+        CreepBoard x = new CreepBoard();
+        int[] kinds = {2, 1, 0, 3, 1, 2, 2, 1, 3, 2};
+        for (int kind : kinds) {
+            x.mark(kind, 0, 0);
+        }
+        for (int k = 0; k < kinds.length; k++) {
+            // A shelf whose number is another than the mark's.
+            int d = (k + 3) % 8;
+            int number = kinds[k] == 1 || kinds[k] == 2 ? k : -15;
+            x.keep(d, 1, k);
+            due.is("34 mark " + k + " of kind " + kinds[k] + " on shelf " + d, number, () -> x.toss(d));
+            due.is("34 mark " + k + " tossed again", number, () -> x.toss(d));
+        }
+        x.keep(0, 1, 9);
+        x.keep(1, 1, 9);
+        due.is("34 one mark on two shelves", 9, () -> x.toss(0));
+        due.is("34 the other shelf", 9, () -> x.toss(1));
+        x.keep(0, 1, 0);
+        due.is("34 mark 0, standing", 0, () -> x.toss(0));
+
+        CreepBoard first = new CreepBoard();
+        first.mark(1, 0, 0);
+        first.keep(7, 1, 0);
+        due.is("34 mark 0, a receiver", 0, () -> first.toss(7));
+        first.antenna(0, 0, 9);
+        first.read(0, 0, 1, 1);
+        due.is("34 whatever is told of it", 0, () -> first.toss(7));
+        due.is("34 a toss changes nothing", 120, () -> first.weight(7));
     }
 }
