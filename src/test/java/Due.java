@@ -4,6 +4,17 @@ final class Due {
         long answer();
     }
 
+    interface NumberCall {
+        long answer(int n);
+    }
+
+    interface BoardCall {
+        long answer(CreepBoard x);
+    }
+
+    static final String ARGUMENT = "throws.IllegalArgumentException";
+    static final String STATE = "throws.IllegalStateException";
+
     private int asked = 0;
     private int wrong = 0;
 
@@ -14,12 +25,21 @@ final class Due {
 
     /** A call that throws IllegalArgumentException. */
     void refusesArgument(String what, Call call) {
-        compare(what, "throws.IllegalArgumentException", outcome(call));
+        compare(what, ARGUMENT, outcome(call));
     }
 
     /** A call that throws IllegalStateException. */
     void refusesState(String what, Call call) {
-        compare(what, "throws.IllegalStateException", outcome(call));
+        compare(what, STATE, outcome(call));
+    }
+
+    /** The last numbers that are taken at both ends and their answers; one beyond them, and the farthest ints, are not. */
+    void range(String what, int from, long atFrom, int to, long atTo, String refusal, NumberCall call) {
+        compare(what + " " + from + ", the least", Long.toString(atFrom), outcome(() -> call.answer(from)));
+        compare(what + " " + to + ", the greatest", Long.toString(atTo), outcome(() -> call.answer(to)));
+        for (int n : new int[] {from - 1, to + 1, Integer.MIN_VALUE, Integer.MAX_VALUE}) {
+            compare(what + " " + n + ", beyond", refusal, outcome(() -> call.answer(n)));
+        }
     }
 
     void compare(String what, String want, String got) {

@@ -19,6 +19,7 @@ public final class MarksTest {
         rateAtTheEdges();
         jump();
         jumpOfUnevenParts();
+        jumpsEquallyFar();
         common();
         due.end();
     }
@@ -165,6 +166,14 @@ public final class MarksTest {
         x.antenna(0, 0, -5);
         due.is("7 the antenna in place of the one before, 2", 54, () -> x.cleared(0, 2, 0));
         due.is("7 the antenna in place of the one before, 3", 54, () -> x.cleared(0, 3, 0));
+        x.antenna(0, 3, 9);
+        due.is("7 0 ahead of a later antenna", 49, () -> x.cleared(0, 2, 0));
+        due.is("7 a later antenna from there on", 40, () -> x.cleared(0, 3, 0));
+        x.antenna(0, 39, 9);
+        due.is("7 the same offset from later on", 49, () -> x.cleared(0, 3, 0));
+        x.antenna(0, 1, 0);
+        due.is("7 no offset any more", 49, () -> x.cleared(0, 3, 0));
+        due.is("7 no offset any more, north", 59, () -> x.cleared(0, 3, 1));
     }
 
     private static void clearedOfStanding() {
@@ -340,6 +349,24 @@ public final class MarksTest {
         }
         due.is("10 the first reading counts", 2, () -> x.jump(2, 0));
         due.is("10 the last reading counts", 4, () -> x.jump(2, 1));
+    }
+
+    private static void jumpsEquallyFar() {
+        CreepBoard x = new CreepBoard();
+        x.mark(0, 0, 0);
+        // At the third and at the fourth reading the means are apart by 5/3.
+        int[] z = {2, 2, 1, 0, 0};
+        for (int i = 0; i < 5; i++) {
+            x.read(0, 7 * i, z[i], -z[i]);
+        }
+        due.is("10 of two the first, downward", 14, () -> x.jump(0, 0));
+        due.is("10 of two the first, upward", 14, () -> x.jump(0, 1));
+        x.read(0, 14, 2, -2);
+        due.is("10 the second is farther now", 21, () -> x.jump(0, 0));
+        due.is("10 the second is farther now, upward", 21, () -> x.jump(0, 1));
+        x.read(0, 14, 0, 0);
+        due.is("10 the first is farther now", 14, () -> x.jump(0, 0));
+        due.is("10 the first is farther now, upward", 14, () -> x.jump(0, 1));
     }
 
     private static void common() {

@@ -2,6 +2,7 @@ import java.util.Random;
 
 /** Long runs of drawn calls, the same each time, on the class and on the slow model of the document. */
 public final class ModelTest {
+    private static final int MOST_CALLS = 512;
     private static final int[] FAR = {Integer.MIN_VALUE, Integer.MIN_VALUE + 1, -2, -1, Integer.MAX_VALUE - 1, Integer.MAX_VALUE};
 
     private final Random random;
@@ -37,6 +38,10 @@ public final class ModelTest {
     }
 
     private void ask(String call, Due.Call ofClass, Due.Call ofModel) {
+        // What an object answers after its 512th call is free, so no more are asked of the class.
+        if (calls == MOST_CALLS) {
+            return;
+        }
         calls++;
         due.compare(run + ", call " + calls + ": " + call, Due.outcome(ofModel), Due.outcome(ofClass));
     }
@@ -64,16 +69,16 @@ public final class ModelTest {
     }
 
     private int drawMark() {
-        return draw(0, Math.max(0, x.count(0) - 1));
+        return draw(0, Math.max(0, m.count(0) - 1));
     }
 
     private void mark(int reach) {
         int kind = draw(0, 3);
         int px = near(-1000, 1000, reach);
         int py = near(-1000, 1000, reach);
-        int before = x.count(0);
+        int before = m.count(0);
         ask("mark " + kind + " " + px + " " + py, () -> x.mark(kind, px, py), () -> m.mark(kind, px, py));
-        if (x.count(0) > before) {
+        if (m.count(0) > before) {
             placesX[before] = px;
             placesY[before] = py;
         }
@@ -187,7 +192,7 @@ public final class ModelTest {
         int c = drawMark();
         int part = draw(0, 3);
         boolean lower = random.nextBoolean();
-        int set = draw(0, (1 << x.count(0)) - 1);
+        int set = draw(0, (1 << m.count(0)) - 1);
         ask("moves " + a + " " + part, () -> x.moves(a, part), () -> m.moves(a, part));
         ask("strain " + a + " " + b + " " + c + " " + part + " " + lower,
                 () -> x.strain(a, b, c, part, lower), () -> m.strain(a, b, c, part, lower));
@@ -240,7 +245,7 @@ public final class ModelTest {
             } else {
                 ask("line " + a + " " + b + " " + rise, () -> x.line(a, b, rise), () -> m.line(a, b, rise));
             }
-            if (x.count(3) < 12 || random.nextInt(4) == 0) {
+            if (m.count(3) < 12 || random.nextInt(4) == 0) {
                 int what = draw(0, 1);
                 int k = drawMark();
                 ask("wrong " + what, () -> x.wrong(what), () -> m.wrong(what));
@@ -251,7 +256,7 @@ public final class ModelTest {
 
     private void shelves() {
         marks(4, 10);
-        for (int i = 0; i < 240; i++) {
+        for (int i = 0; i < 165; i++) {
             int d = draw(0, 7);
             int e = draw(0, 7);
             int what = draw(0, 4);

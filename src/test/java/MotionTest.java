@@ -9,6 +9,7 @@ public final class MotionTest {
         frameBeyond();
         strain();
         strainRefusals();
+        strainOfTheLeastTriangles();
         strainAtTheEdges();
         block();
         blockOnOnePlace();
@@ -133,6 +134,23 @@ public final class MotionTest {
         due.refusesArgument("15 part above", () -> x.strain(0, 1, 3, 4, false));
         due.refusesArgument("15 part below", () -> x.strain(0, 1, 3, -1, false));
         due.refusesArgument("15 no part goes ahead of a line", () -> x.strain(0, 1, 2, 4, false));
+    }
+
+    private static void strainOfTheLeastTriangles() {
+        CreepBoard x = board(5, 5, 6, 5, 5, 6, 7, 4);
+        x.velocity(1, 3, -2);
+        x.velocity(2, -7, 4);
+        // D is 1, or -1 the other way round: the fraction is the same.
+        long[] above = {3, 4, -9, 5};
+        for (int n = 0; n < 4; n++) {
+            int part = n;
+            due.is("15 D 1, part " + n, above[n], () -> x.strain(0, 1, 2, part, false));
+            due.is("15 D 1, below, part " + n, 1, () -> x.strain(0, 1, 2, part, true));
+            due.is("15 D -1, part " + n, above[n], () -> x.strain(0, 2, 1, part, false));
+            due.is("15 D -1, below, part " + n, 1, () -> x.strain(0, 2, 1, part, true));
+            due.refusesState("15 D 0, part " + n, () -> x.strain(1, 2, 3, part, false));
+            due.refusesState("15 D 0, below, part " + n, () -> x.strain(3, 1, 2, part, true));
+        }
     }
 
     private static void strainAtTheEdges() {
