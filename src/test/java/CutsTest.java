@@ -8,6 +8,7 @@ public final class CutsTest {
         fits();
         fitsWithTolerance();
         fitsBelowNought();
+        fitsOfFastMarks();
         slip();
         locked();
         slipsAnew();
@@ -112,6 +113,25 @@ public final class CutsTest {
         due.is("22 -300", 15, () -> x.slip(2, false));
         x.green(0, 2, 20);
         due.is("22 no slip below 0", -4, () -> x.slip(2, false));
+    }
+
+    /** East 65536, or as much below 0, is beyond what slips can come to. */
+    private static void fitsOfFastMarks() {
+        for (int sign = -1; sign <= 1; sign += 2) {
+            CreepBoard x = new CreepBoard();
+            x.mark(0, 0, 0);
+            x.green(0, 0, 20);
+            x.tolerance(100);
+            for (int i = 0; i < 65; i++) {
+                x.frame(sign * 1000, 0, 0);
+            }
+            x.frame(sign * 536, 0, 0);
+            int east = -sign * 65536;
+            due.is("13 east " + east, east, () -> x.moves(0, 0));
+            due.is("21 none has east " + east, 0, () -> x.fits());
+            due.is("22 none has east " + east, -4, () -> x.slip(0, true));
+            due.is("23 none has east " + east, -4, () -> x.locked());
+        }
     }
 
     private static void slip() {

@@ -29,6 +29,7 @@ public final class FaceTest {
         due.compare("the class", "public final", Modifier.toString(CreepBoard.class.getModifiers()));
         noPublicNameTwice();
         nestedClassesAreStatic();
+        callsStandUnderTheirHeadings();
         due.end();
     }
 
@@ -47,6 +48,27 @@ public final class FaceTest {
             face.add((m.group(1) == null ? "" : m.group(1)) + m.group(2) + types + " " + thrown);
         }
         return face;
+    }
+
+    /** The document names the calls of each part in their order, and what stands ahead of them. */
+    private static void callsStandUnderTheirHeadings() throws IOException {
+        String text = Files.readString(Path.of("..", "shared", "DOC.md"));
+        Matcher m = Pattern.compile("Ahead of the calls (.*) the interface says: (---- [^.\n]*)\\.").matcher(text);
+        List<String> wanted = new ArrayList<>();
+        while (m.find()) {
+            wanted.add(m.group(2));
+            wanted.addAll(List.of(m.group(1).replace("`", "").split(", ")));
+        }
+        String source = Files.readString(Path.of("src", "main", "java", "CreepBoard.java"));
+        Matcher line = Pattern.compile("(?m)^    (?:// (---- .*)|public (?:int|long) (\\w+)\\()").matcher(source);
+        List<String> found = new ArrayList<>();
+        while (line.find()) {
+            found.add(line.group(1) == null ? line.group(2) : line.group(1));
+        }
+        due.compare("headings and calls", "three and all", wanted.size() == 3 + 33 ? "three and all" : "" + wanted.size());
+        for (int i = 0; i < wanted.size(); i++) {
+            due.compare("place " + i + " of the interface", wanted.get(i), i < found.size() ? found.get(i) : "nothing");
+        }
     }
 
     private static TreeSet<String> classFace() {

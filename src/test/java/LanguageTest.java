@@ -1,6 +1,9 @@
 import java.io.IOException;
+import java.lang.reflect.Field;
+import java.lang.reflect.Modifier;
 import java.nio.file.Files;
 import java.nio.file.Path;
+import java.util.ArrayList;
 import java.util.List;
 import java.util.Set;
 import java.util.regex.Matcher;
@@ -39,8 +42,36 @@ public final class LanguageTest {
         library(code);
         exceptions(code);
         methodsAreShort(code.split("\n"));
+        fieldsAreFewAndPlain();
         due.compare("classes, twelve at most (11)", "true", Boolean.toString(all("\\bclass\\s+\\w+", code).size() <= 12));
         due.end();
+    }
+
+    private static void fieldsAreFewAndPlain() {
+        List<Class<?>> classes = new ArrayList<>(List.of(CreepBoard.class.getDeclaredClasses()));
+        classes.add(CreepBoard.class);
+        for (Class<?> c : classes) {
+            int own = 0;
+            for (Field f : c.getDeclaredFields()) {
+                if (Modifier.isStatic(f.getModifiers())) {
+                    due.compare("static field (5): " + f, "a constant", f.getType() == int.class ? "a constant" : "no constant");
+                } else {
+                    own++;
+                }
+                due.compare("type (3): " + f, "plain", isPlain(f.getType(), classes) ? "plain" : "another");
+            }
+            due.compare("fields of " + c.getSimpleName() + ", twenty at most (11)", "true", Boolean.toString(own <= 20));
+        }
+    }
+
+    /** A number, a truth, a class of its own, a row of these, or rows of numbers in a row. */
+    private static boolean isPlain(Class<?> type, List<Class<?>> own) {
+        if (!type.isArray()) {
+            return type.isPrimitive() || own.contains(type);
+        }
+        Class<?> part = type.getComponentType();
+        return part.isArray() ? part.getComponentType().isPrimitive() && part.getComponentType() != boolean.class
+                : part.isPrimitive() || own.contains(part);
     }
 
     private static List<String> all(String pattern, String code) {

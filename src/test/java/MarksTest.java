@@ -10,6 +10,8 @@ public final class MarksTest {
         gap();
         step();
         clearedOfPlain();
+        clearedInWhateverOrder();
+        stepsAreTheMarksOwn();
         clearedOfReceiver();
         clearedOfStanding();
         clearedOfBuoy();
@@ -152,6 +154,48 @@ public final class MarksTest {
         due.is("7 behind all steps, north", 218, () -> x.cleared(0, 6, 1));
     }
 
+    /** A step is taken off from its epoch on, whether the reading was told before or after it. */
+    private static void clearedInWhateverOrder() {
+        CreepBoard x = new CreepBoard();
+        x.mark(1, 0, 0);
+        x.step(0, 5, 10, -20);
+        x.antenna(0, 6, 3);
+        for (int e = 4; e <= 6; e++) {
+            x.read(0, e, 100, 200);
+        }
+        due.is("7 told after the step, ahead of it", 100, () -> x.cleared(0, 4, 0));
+        due.is("7 told after the step, east", 90, () -> x.cleared(0, 5, 0));
+        due.is("7 told after the step, north", 220, () -> x.cleared(0, 5, 1));
+        due.is("7 told after the step and the antenna", 87, () -> x.cleared(0, 6, 0));
+        x.read(0, 6, 50, 60);
+        due.is("7 told anew, east", 37, () -> x.cleared(0, 6, 0));
+        due.is("7 told anew, north", 77, () -> x.cleared(0, 6, 1));
+        x.gap(0, 6);
+        due.is("7 a gap elsewhere leaves the step", 90, () -> x.cleared(0, 5, 0));
+        due.is("7 a gap leaves the steps", 1, () -> x.count(2));
+        x.read(0, 6, -50, -60);
+        due.is("7 told anew after a gap, east", -63, () -> x.cleared(0, 6, 0));
+        due.is("7 told anew after a gap, north", -43, () -> x.cleared(0, 6, 1));
+    }
+
+    private static void stepsAreTheMarksOwn() {
+        CreepBoard x = new CreepBoard();
+        for (int k = 0; k < 3; k++) {
+            x.mark(0, 0, 0);
+            x.read(k, 1, 100, 100);
+            x.read(k, 9, 100, 100);
+        }
+        x.step(0, 0, 1, 2);
+        x.step(1, 5, 30, 40);
+        due.is("7 mark 0, ahead of the other's step", 99, () -> x.cleared(0, 1, 0));
+        due.is("7 mark 0, from there on", 98, () -> x.cleared(0, 9, 1));
+        due.is("7 mark 1, ahead of its step", 100, () -> x.cleared(1, 1, 0));
+        due.is("7 mark 1, from its step on", 60, () -> x.cleared(1, 9, 1));
+        due.is("7 mark 2 has none", 100, () -> x.cleared(2, 9, 0));
+        due.is("6 mark 1 has two now", 2, () -> x.step(1, 9, 1, 1));
+        due.is("6 mark 2 has one now", 1, () -> x.step(2, 9, 1, 1));
+    }
+
     private static void clearedOfReceiver() {
         CreepBoard x = new CreepBoard();
         x.mark(1, 0, 0);
@@ -214,6 +258,10 @@ public final class MarksTest {
         x.step(0, 5, 100, 0);
         due.is("7 the mean is without steps", -3, () -> x.cleared(0, 1, 0));
         due.is("7 the reading is less the step", -102, () -> x.cleared(0, 5, 0));
+        x.gap(0, 37);
+        due.is("7 the mean without a reading that is gone", 0, () -> x.cleared(0, 1, 0));
+        x.read(0, 5, 31, -11);
+        due.is("7 the mean with another reading", -10, () -> x.cleared(0, 1, 0));
     }
 
     private static void clearedRefusals() {

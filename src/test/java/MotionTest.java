@@ -11,9 +11,11 @@ public final class MotionTest {
         strainRefusals();
         strainOfTheLeastTriangles();
         strainAtTheEdges();
+        strainOfFastMarks();
         block();
         blockOnOnePlace();
         blockBeyondInts();
+        blockUnlikeBeyondInts();
         blocks();
         blocksOfSeveralWays();
         blocksAnew();
@@ -42,6 +44,9 @@ public final class MotionTest {
         due.is("12 north above", -1, () -> x.velocity(0, 0, 1001));
         due.is("12 north below", -1, () -> x.velocity(0, 0, -1001));
         due.is("12 refused ones change nothing", 0, () -> x.velocity(0, 1000, -1000));
+        x.frame(1000, -500, 0);
+        due.is("12 before is what the frame left, the same", 0, () -> x.velocity(0, 0, -500));
+        due.is("12 before is what the frame left, another", 1, () -> x.velocity(0, 1000, -1000));
     }
 
     private static void moves() {
@@ -66,6 +71,8 @@ public final class MotionTest {
         due.is("14 north: 20 - (200 + 4 * 2)", -188, () -> x.moves(0, 1));
         due.is("14 east: 0 - (100 - 4 * 7)", -72, () -> x.moves(1, 0));
         due.is("14 north: 0 - (200 + 4 * -5)", -180, () -> x.moves(1, 1));
+        due.is("14 tied to nothing", 1, () -> x.frame(0, 0, 0));
+        due.is("14 east is as it was", -78, () -> x.moves(0, 0));
         due.is("14 a above", -1, () -> x.frame(1001, 0, 0));
         due.is("14 a below", -1, () -> x.frame(-1001, 0, 0));
         due.is("14 b above", -1, () -> x.frame(0, 1001, 0));
@@ -166,6 +173,26 @@ public final class MotionTest {
         due.is("15 TURN by", 1, () -> x.strain(0, 1, 2, 3, true));
     }
 
+    private static void strainOfFastMarks() {
+        CreepBoard x = turned();
+        due.is("15 TURN of all", -180, () -> x.strain(0, 1, 2, 3, false));
+        due.is("15 TURN of all, from mark 1", -180, () -> x.strain(1, 2, 0, 3, false));
+        x.velocity(0, 0, 0);
+        due.is("15 EE: 10000 by 1000", 10, () -> x.strain(0, 1, 2, 0, false));
+        due.is("15 NN: -10000 by 1000", -10, () -> x.strain(0, 1, 2, 1, false));
+        due.is("15 EN: 100000 - 100000", 0, () -> x.strain(0, 1, 2, 2, false));
+        due.is("15 TURN: -200000 by 1000", -200, () -> x.strain(0, 1, 2, 3, false));
+    }
+
+    /** Marks that have come to (10000, -10000), (10000, -100000) and (100000, -10000): they turn with w = -90. */
+    private static CreepBoard turned() {
+        CreepBoard x = board(0, 0, 1000, 0, 0, 1000);
+        for (int i = 0; i < 10; i++) {
+            x.frame(-1000, 1000, 9);
+        }
+        return x;
+    }
+
     private static void block() {
         CreepBoard x = board(0, 0, 4, 0, 0, 4, 4, 4);
         due.is("16 all at rest", 1, () -> x.block(15));
@@ -217,6 +244,23 @@ public final class MotionTest {
         x.velocity(3, 0, 0);
         due.is("16 great numbers, none", 0, () -> x.block(15));
         due.is("16 great numbers, the others", 1, () -> x.block(7));
+    }
+
+    /** Marks 0 and 1 at rest, 2^19 apart by squares; a third moves by 2^13: products of 2^32 are not 0. */
+    private static void blockUnlikeBeyondInts() {
+        for (int side = 0; side < 2; side++) {
+            CreepBoard x = board(0, 0, 512, 512, 512, -512);
+            for (int i = 0; i < 8; i++) {
+                x.frame(side == 0 ? -1000 : 0, side == 1 ? -1000 : 0, 0);
+            }
+            x.frame(side == 0 ? -192 : 0, side == 1 ? -192 : 0, 0);
+            x.velocity(0, 0, 0);
+            x.velocity(1, 0, 0);
+            int s = side;
+            due.is("13 2^13, side " + s, 8192, () -> x.moves(2, s));
+            due.is("16 it moves, side " + s, 0, () -> x.block(7));
+            due.is("17 it moves, side " + s, 2, () -> x.blocks());
+        }
     }
 
     private static void blocks() {
